@@ -1,0 +1,109 @@
+/** What the tests share: comparing answers, telling the wrong ones, and short texts of a desk's state. */
+final class Check {
+    private static int wrong = 0;
+    private static int made = 0;
+
+    private Check() {
+    }
+
+    /** A call whose answer or exception is looked at. */
+    interface Call {
+        long answer();
+    }
+
+    static void due(String what, long want, long got) {
+        made++;
+        if (got != want) {
+            tell(what + " answered " + got + ", due is " + want);
+        }
+    }
+
+    static void due(String what, boolean want, boolean got) {
+        due(what, want ? 1 : 0, got ? 1 : 0);
+    }
+
+    static void due(String what, String want, String got) {
+        made++;
+        if (!got.equals(want)) {
+            tell(what + " answered '" + got + "', due is '" + want + "'");
+        }
+    }
+
+    static void argument(String what, Call call) {
+        due(what, "IllegalArgumentException", thrownBy(call));
+    }
+
+    static void state(String what, Call call) {
+        due(what, "IllegalStateException", thrownBy(call));
+    }
+
+    static String thrownBy(Call call) {
+        try {
+            call.answer();
+            return "nothing";
+        } catch (RuntimeException e) {
+            return e.getClass().getSimpleName();
+        }
+    }
+
+    static void tell(String text) {
+        wrong++;
+        System.out.println(text);
+    }
+
+    static void end() {
+        System.out.println(made + " answers looked at, " + wrong + " of them wrong");
+        if (wrong != 0 || made == 0) {
+            System.exit(1);
+        }
+    }
+
+    /** OBJECTS, JOBS, pairs, items and HANDLERS, as count tells them. */
+    static String counts(PromiseDesk desk) {
+        StringBuilder text = new StringBuilder();
+        for (int what = 0; what < 5; what++) {
+            text.append(what == 0 ? "" : " ").append(desk.count(what));
+        }
+        return text.toString();
+    }
+
+    /** THE LOG as who:argument, a blank between pairs. */
+    static String log(PromiseDesk desk) {
+        StringBuilder text = new StringBuilder();
+        for (int i = 0; desk.log(i, false) != -1000000; i++) {
+            text.append(i == 0 ? "" : " ").append(desk.log(i, false)).append(':').append(desk.log(i, true));
+        }
+        return text.toString();
+    }
+
+    /** State and result of a PROMISE. */
+    static String promise(PromiseDesk desk, int p) {
+        return desk.state(p) + " " + desk.result(p);
+    }
+
+    /** The kind of an OBJECT and its parts. */
+    static String parts(PromiseDesk desk, int v) {
+        StringBuilder text = new StringBuilder().append(desk.kind(v)).append(':');
+        for (int i = 0; i < desk.part(v, -1); i++) {
+            text.append(' ').append(desk.part(v, i));
+        }
+        return text.toString();
+    }
+
+    /** All that the face shows of a desk but the functions that it keeps. */
+    static String everything(PromiseDesk desk) {
+        StringBuilder text = new StringBuilder(counts(desk)).append('|').append(log(desk)).append('|');
+        for (int k = 0; k < desk.count(0); k++) {
+            int v = -2 - k;
+            int kind = desk.kind(v);
+            text.append(kind).append('=');
+            if (kind == 0) {
+                text.append(promise(desk, v));
+            } else if (kind > 2) {
+                text.append(parts(desk, v));
+            }
+            text.append(';');
+        }
+        return text.toString();
+    }
+}
