@@ -1,7 +1,14 @@
+import java.lang.reflect.InvocationTargetException;
+import java.lang.reflect.Method;
+import java.util.Arrays;
+import java.util.Comparator;
+
 /** What the tests share: comparing answers, telling the wrong ones, and short texts of a desk's state. */
 final class Check {
     private static int wrong = 0;
     private static int made = 0;
+    /** The named test that runs, if one does. */
+    private static String running = "";
 
     private Check() {
     }
@@ -9,6 +16,40 @@ final class Check {
     /** A call whose answer or exception is looked at. */
     interface Call {
         long answer();
+    }
+
+    /**
+     * Runs the named tests of a class and ends: its methods promiseN_case, N being the promise's number. Finding
+     * them by their names leaves none out; a test that looks at no answer counts as wrong.
+     */
+    static void runAll(Class<?> tests) {
+        Method[] methods = tests.getDeclaredMethods();
+        Arrays.sort(methods, Comparator.comparing(Method::getName));
+        for (Method method : methods) {
+            if (method.getName().startsWith("promise")) {
+                runOne(method);
+            }
+        }
+        end();
+    }
+
+    private static void runOne(Method method) {
+        int wrongBefore = wrong;
+        int madeBefore = made;
+        running = method.getName() + ": ";
+        try {
+            method.setAccessible(true);
+            method.invoke(null);
+        } catch (InvocationTargetException e) {
+            tell("ended by " + e.getCause());
+        } catch (IllegalAccessException e) {
+            tell("could not be run: " + e);
+        }
+        if (made == madeBefore) {
+            tell("looked at no answer");
+        }
+        running = "";
+        System.out.println((wrong == wrongBefore ? "  ok   " : "  FAIL ") + method.getName());
     }
 
     static void due(String what, long want, long got) {
@@ -37,6 +78,25 @@ final class Check {
         due(what, "IllegalStateException", thrownBy(call));
     }
 
+    /** Each call throws an IllegalArgumentException and changes nothing of the desk that the face shows. */
+    static void refusedArgument(String what, PromiseDesk desk, Call... calls) {
+        refused(what, "IllegalArgumentException", desk, calls);
+    }
+
+    /** Each call throws an IllegalStateException and changes nothing of the desk that the face shows. */
+    static void refusedState(String what, PromiseDesk desk, Call... calls) {
+        refused(what, "IllegalStateException", desk, calls);
+    }
+
+    private static void refused(String what, String exception, PromiseDesk desk, Call... calls) {
+        String before = everything(desk);
+        for (int i = 0; i < calls.length; i++) {
+            String name = calls.length == 1 ? what : what + ", call " + i;
+            due(name, exception, thrownBy(calls[i]));
+            due(name + ": the desk behind it", before, everything(desk));
+        }
+    }
+
     static String thrownBy(Call call) {
         try {
             call.answer();
@@ -48,7 +108,7 @@ final class Check {
 
     static void tell(String text) {
         wrong++;
-        System.out.println(text);
+        System.out.println(running + text);
     }
 
     static void end() {
