@@ -18,7 +18,10 @@ public final class Promise12BoundaryTest {
     private static void promise12_sortTooLarge() {
         PromiseDesk desk = Desks.withItems(2);
         Check.refusedArgument("combine", desk, () -> desk.combine(4), () -> desk.combine(Integer.MAX_VALUE));
-        Check.due("the list stays", 3, desk.item(0));
+        Check.due("the list stays", 3, desk.item(7));
+        int p = desk.combine(ALL);
+        desk.jobs(9);
+        Check.due("with what it had", "4: 0 1 7", Check.parts(desk, desk.result(p)));
     }
 
     private static void promise12_allOfNothing() {
@@ -177,7 +180,7 @@ public final class Promise12BoundaryTest {
                 () -> desk.combine(ANY), () -> desk.combine(RACE));
     }
 
-    private static void promise12_roomFor2MoreForEachOfTheList() {
+    private static void promise12_roomFor8And2ForEachOfTheList() {
         for (int items : new int[] {1, 3, 200}) {
             int fits = 3000 - 8 - 2 * items;
             PromiseDesk desk = Desks.withObjects(fits);
@@ -187,7 +190,7 @@ public final class Promise12BoundaryTest {
         }
     }
 
-    private static void promise12_oneLessIsTooLittle() {
+    private static void promise12_room1ShortOf8And2ForEachIsTooLittle() {
         for (int items : new int[] {1, 3, 200}) {
             PromiseDesk desk = Desks.withObjects(3000 - 8 - 2 * items + 1);
             Desks.addItems(desk, items);
