@@ -19,14 +19,14 @@ final class Check {
     }
 
     /**
-     * Runs the named tests of a class and ends: its methods promiseN_case, N being the promise's number. Finding
-     * them by their names leaves none out; a test that looks at no answer counts as wrong.
+     * Runs the named tests of a class and ends: its methods promiseN_case, N being the promise's number, and
+     * terms_case. Finding them by their names leaves none out; a test that looks at no answer counts as wrong.
      */
     static void runAll(Class<?> tests) {
         Method[] methods = tests.getDeclaredMethods();
         Arrays.sort(methods, Comparator.comparing(Method::getName));
         for (Method method : methods) {
-            if (method.getName().startsWith("promise")) {
+            if (method.getName().startsWith("promise") || method.getName().startsWith("terms")) {
                 runOne(method);
             }
         }

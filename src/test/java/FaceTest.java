@@ -8,12 +8,16 @@ import java.util.TreeSet;
 
 /** The public face is the document's and nothing else (LANGUAGE.md, rules 1 and 5). */
 public final class FaceTest {
+    private static final String ARGUMENT = " IllegalArgumentException";
+    private static final String STATE = " IllegalStateException";
+    private static final String BOTH = ARGUMENT + STATE;
     private static final String[] FACE = {
-        "int promise[]", "int handler[int, int]", "int thenable[int, int, int, int, int]",
-        "boolean settle[int, boolean, int]", "int later[int, boolean, int]", "int then[int, int, int, boolean]",
-        "int lastly[int, int]", "int wrap[int]", "int broken[int]", "int item[int]", "int combine[int]",
-        "int async[int, int]", "int jobs[int]", "int state[int]", "int result[int]", "int kind[int]",
-        "int part[int, int]", "int log[int, boolean]", "int count[int]",
+        "int promise[]" + STATE, "int handler[int, int]" + BOTH, "int thenable[int, int, int, int, int]" + BOTH,
+        "boolean settle[int, boolean, int]" + BOTH, "int later[int, boolean, int]" + BOTH,
+        "int then[int, int, int, boolean]" + BOTH, "int lastly[int, int]" + BOTH, "int wrap[int]" + BOTH,
+        "int broken[int]" + BOTH, "int item[int]" + BOTH, "int combine[int]" + BOTH, "int async[int, int]" + BOTH,
+        "int jobs[int]" + STATE, "int state[int]" + ARGUMENT, "int result[int]" + ARGUMENT, "int kind[int]" + ARGUMENT,
+        "int part[int, int]" + ARGUMENT, "int log[int, boolean]", "int count[int]" + ARGUMENT,
     };
 
     public static void main(String[] args) {
@@ -31,6 +35,8 @@ public final class FaceTest {
             Check.due(field + " is final if static", true,
                     !Modifier.isStatic(field.getModifiers()) || Modifier.isFinal(field.getModifiers()));
         }
+        Check.due("what it extends", "class java.lang.Object", desk.getSuperclass().toString());
+        Check.due("what it implements", 0, desk.getInterfaces().length);
         for (Class<?> inside : desk.getDeclaredClasses()) {
             Check.due(inside + " is static", true, Modifier.isStatic(inside.getModifiers()));
             Check.due(inside + " is private", true, Modifier.isPrivate(inside.getModifiers()));
@@ -44,7 +50,8 @@ public final class FaceTest {
         TreeSet<String> names = new TreeSet<>();
         for (Method method : desk.getDeclaredMethods()) {
             if (Modifier.isPublic(method.getModifiers())) {
-                shown.add(method.getReturnType() + " " + method.getName() + params(method));
+                shown.add(method.getReturnType() + " " + method.getName() + params(method) + exceptions(method));
+                Check.due(method + " is of the object", false, Modifier.isStatic(method.getModifiers()));
                 names.add(method.getName());
             }
         }
@@ -59,6 +66,14 @@ public final class FaceTest {
 
     private static String params(Method method) {
         return Arrays.toString(method.getParameterTypes());
+    }
+
+    private static String exceptions(Method method) {
+        StringBuilder names = new StringBuilder();
+        for (Class<?> exception : method.getExceptionTypes()) {
+            names.append(' ').append(exception.getSimpleName());
+        }
+        return names.toString();
     }
 
     private static void hidden(Member member) {
